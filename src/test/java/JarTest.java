@@ -240,6 +240,7 @@ public final class JarTest {
         Check.law(x, "");
         CHECK.due("undo behind a text", false, x::undo);
         JarCabinet y = Check.with(THREE, "sour 7 if matter+view<1;sour 5 if honey;sour 3 if year>0");
+        y.advice(2, 4, true);
         y.years(1);
         CHECK.due("matter and view are 0", 17, () -> y.jar(0, 3));
         CHECK.due("both lines", 12, () -> y.jar(1, 3));

@@ -57,6 +57,14 @@ public final class MemoryTest {
         CHECK.due("until one has none", 5, () -> x.ring(0));
         CHECK.due("has none", 4, () -> x.ring(2));
         CHECK.index("no jar", () -> x.ring(4));
+        JarCabinet ten = new JarCabinet();
+        for (int k = 0; k < 10; k++) {
+            Check.cabinet(ten, "jar water at " + k + " spoons 1 sour 1 seal 1 views 000000");
+        }
+        for (int k = 0; k < 10; k++) {
+            ten.label(k, (k + 7) % 10);
+        }
+        CHECK.due("all of ten", 1023, () -> ten.ring(3));
         CHECK.index("jar -1", () -> x.ring(-1));
     }
 
@@ -271,6 +279,8 @@ public final class MemoryTest {
         x.years(1);
         x.back();
         CHECK.due("the later image", 1, () -> x.count(4));
+        CHECK.due("going back: none are remembered", 0, () -> x.count(13));
+        CHECK.due("going back: none is undone", false, x::undo);
     }
 
     private static void imageOfLaw() {

@@ -28,6 +28,12 @@ public final class ModelTest {
             if (run % 3 != 0) {
                 text(false, 0);
             }
+            if (run % 4 == 1) {
+                lightAll();
+            }
+            if (run % 4 == 2) {
+                needMuch();
+            }
             for (int call = 0; call < CALLS; call++) {
                 any();
             }
@@ -172,9 +178,45 @@ public final class ModelTest {
         same("end", () -> x.end(bytes.length), () -> y.end(bytes.length));
     }
 
+    /** Every place has light, so that it matters where a jar is. */
+    private void lightAll() {
+        StringBuilder s = new StringBuilder("quota " + (1 + below(30)));
+        int most = 2 + below(8);
+        for (int place = 0; place < 12; place++) {
+            s.append(";light ").append(place).append(' ').append(below(most));
+        }
+        read(true, s.toString());
+        jars(6, 4);
+        jars(4, 21);
+    }
+
+    /** More needs than spoons, so that they must be shared. */
+    private void needMuch() {
+        StringBuilder s = new StringBuilder("need 0 0 1");
+        for (int k = 1; k < 10; k++) {
+            s.append(";need ").append(below(4)).append(' ').append(below(6)).append(' ').append(3 + below(7));
+        }
+        read(true, s.toString());
+        jars(6, 3);
+    }
+
+    private void jars(int most, int spoons) {
+        for (int k = 0; k < most; k++) {
+            StringBuilder views = new StringBuilder();
+            for (int m = 0; m < 6; m++) {
+                views.append(below(10));
+            }
+            read(true, "jar " + one("vinegar", "honey", "water") + " at " + freePlace() + " spoons "
+                    + below(spoons) + " sour " + below(20) + " seal " + below(10) + " views " + views);
+        }
+    }
+
     private void text(boolean cabinet, int harm) {
+        read(cabinet, textOf(cabinet, harm));
+    }
+
+    private void read(boolean cabinet, String text) {
         same("end(0)", () -> x.end(0), () -> y.end(0));
-        String text = textOf(cabinet, harm);
         feed(text.getBytes(StandardCharsets.ISO_8859_1));
         if (cabinet) {
             same("cabinet() of " + text, () -> x.cabinet(), () -> y.cabinet());

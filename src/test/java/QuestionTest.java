@@ -10,9 +10,11 @@ public final class QuestionTest {
         covering();
         planning();
         planByRoom();
+        planAgain();
         tasting();
         nextTaste();
         harmAndArranged();
+        arrangedByOrder();
         falling();
         votes();
         wars();
@@ -230,6 +232,34 @@ public final class QuestionTest {
         CHECK.due("so jar 1 has the dark one", 5, () -> y.arranged(1));
     }
 
+    /** The fullest stands last, and the darkest place is the first one. */
+    private static void arrangedByOrder() {
+        JarCabinet x = Check.with(jar(5, 1, 0, "000000") + ";" + jar(6, 2, 0, "000000") + ";"
+                + jar(7, 3, 0, "000000") + ";" + jar(8, 4, 0, "000000"));
+        Check.cabinet(x, "light 0 1;light 1 9;light 2 4;light 3 9;light 4 3;light 5 9");
+        Check.cabinet(x, "light 6 9;light 7 9;light 8 9;light 9 9;light 10 9;light 11 2");
+        CHECK.due("least", 4 * 1 + 3 * 2 + 2 * 3 + 1 * 4, () -> x.arranged(-1));
+        int[] places = {2, 4, 11, 0};
+        for (int jar = 0; jar < 4; jar++) {
+            int j = jar;
+            CHECK.due("arranged " + j, places[j], () -> x.arranged(j));
+        }
+    }
+
+    private static void planAgain() {
+        JarCabinet x = Check.with(jar(0, 2, 0, "990000") + ";" + jar(1, 1, 0, "900000")
+                + ";need 0 0 9;need 0 1 9;need 0 1 9;need 0 1 9");
+        for (int n = 0; n < 3; n++) {
+            CHECK.due("the same again", 7, () -> x.plan());
+        }
+        x.ask(0, 0);
+        CHECK.due("a spoon less", 3, () -> x.plan());
+        x.ask(1, 0);
+        CHECK.due("another one less", 1, () -> x.plan());
+        x.undo();
+        CHECK.due("it is back", 3, () -> x.plan());
+    }
+
     private static void falling() {
         JarCabinet x = Check.with(jar(0, 4, 0, "000000") + ";" + jar(2, 3, 0, "000000") + ";"
                 + jar(3, 5, 0, "000000") + ";" + jar(11, 8, 0, "000000"));
@@ -283,8 +313,12 @@ public final class QuestionTest {
         CHECK.due("not even all", false, () -> z.wins(3));
         JarCabinet ten = seals(90, 9, 9, 9, 9, 9, 9, 9, 9, 9, 9);
         CHECK.due("just all", 1023, () -> ten.smallest(true));
+        CHECK.due("just all", 1023, () -> ten.smallest(false));
         CHECK.due("power by the others all", 1, () -> ten.jar(9, 9));
         CHECK.due("no dummy", 0, () -> ten.dummies());
+        JarCabinet first = seals(4, 4, 5);
+        CHECK.due("the first alone", 1, () -> first.smallest(false));
+        CHECK.due("the first alone", 1, () -> first.smallest(true));
         JarCabinet one = seals(1, 1, 0, 0, 0, 0, 0, 0, 0, 0, 0);
         CHECK.due("all sets of others", 512, () -> one.jar(0, 9));
         CHECK.due("the others are dummies", 1022, () -> one.dummies());

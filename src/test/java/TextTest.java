@@ -133,6 +133,11 @@ public final class TextTest {
                 () -> Check.cabinet(x, "jar water at 4 spoons 1 sour 1 seal 1 views 000000"));
         CHECK.due("a text: no act is remembered", 0, () -> x.count(13));
         CHECK.due("open ones stay so", 1, () -> x.count(11));
+        CHECK.due("jars", 2, () -> x.count(0));
+        CHECK.due("needs", 0, () -> x.count(1));
+        CHECK.due("quota", 5, () -> x.count(5));
+        CHECK.due("peel", 0, () -> x.count(6));
+        CHECK.due("light", 1, () -> x.light(1));
     }
 
     private static void mostTexts() {
@@ -205,7 +210,7 @@ public final class TextTest {
             {"quota 1 quota 2", 8}, {"quota 1 2", 8}, {"quota x", 6}, {"quota\t1", 5}, {"quota 1\0", 7},
             {"quota 1\u00e9", 7}, {"quota -1", 6}, {"quota 99999999999999999999", 6}, {"q uota 1", 0},
             {"peel 0", -1}, {"peel 100", -1}, {"peel 101", 5}, {"wasps 0", -1}, {"wasps 100", -1},
-            {"wasps 101", 6}, {"wasps", 5}, {"wasp 1", 0}, {"1", 0}, {"sour 1", 0}, {"pop", 0},
+            {"wasps 101", 6}, {"wasps", 5}, {"wasp 1", 0}, {"peelz 1", 0}, {"peel z", 5}, {"1", 0}, {"sour 1", 0}, {"pop", 0},
             {"light 11 9", -1}, {"light 12 9", 6}, {"light 11 10", 9}, {"light 11", 8}, {"light 1;", 7},
             {"light 119", 6}, {"light 0 0 0", 10}, {"need 0 5 9", -1}, {"need 0 5 10", 9},
             {"need 0 6 1", 7}, {"need 0 0 0", 9}, {"need 9999 0 1", -1}, {"need 10000 0 1", 5},
@@ -242,7 +247,7 @@ public final class TextTest {
     private static void lawFaults() {
         Object[][] rows = {
             {"", -1}, {"  ", -1}, {"pop", -1}, {"pop;", 4}, {"pop; pop", -1}, {";pop", 0}, {"pop pop", 4},
-            {"pops", 0}, {"pop 5", 4}, {"add", 3}, {"add 99", -1}, {"add 099", -1}, {"add 0099", 4},
+            {"pops", 0}, {"popz", 0}, {"pop ifz", 4}, {"pop if zopen", 7}, {"pop 5", 4}, {"add", 3}, {"add 99", -1}, {"add 099", -1}, {"add 0099", 4},
             {"add 100", 4}, {"less 0", -1}, {"sour 99", -1}, {"sour 0001", 5}, {"sour x", 5},
             {"add 1 if", 8}, {"add 1 if open", -1}, {"add 1 if open and", 17}, {"add 1 if open or", 16},
             {"add 1 if open not", 14}, {"add 1 if (open", 14}, {"add 1 if (open)", -1},
