@@ -57,10 +57,16 @@ public final class ModelTest {
     /** Mostly a jar that is there. */
     private int jar() {
         int jars = y.count(0);
+        if (below(200) == 0) {
+            return chance.nextInt();
+        }
         return jars == 0 || below(12) == 0 ? below(14) - 2 : below(jars);
     }
 
     private int near(int most) {
+        if (below(200) == 0) {
+            return chance.nextInt();
+        }
         return below(15) == 0 ? below(most + 5) - 2 : below(most + 1);
     }
 
@@ -192,12 +198,16 @@ public final class ModelTest {
 
     /** More needs than spoons, so that they must be shared. */
     private void needMuch() {
-        StringBuilder s = new StringBuilder("need 0 0 1");
-        for (int k = 1; k < 10; k++) {
+        StringBuilder s = new StringBuilder("peel 5");
+        for (int k = y.count(1); k < 10; k++) {
             s.append(";need ").append(below(4)).append(' ').append(below(6)).append(' ').append(3 + below(7));
         }
         read(true, s.toString());
         jars(6, 3);
+        for (int k = 0; k < 20; k++) {
+            same("plan", () -> x.plan(), () -> y.plan());
+            act();
+        }
     }
 
     private void jars(int most, int spoons) {

@@ -254,6 +254,9 @@ public final class QuestionTest {
         }
         x.ask(0, 0);
         CHECK.due("a spoon less", 3, () -> x.plan());
+        JarCabinet y = Check.with(jar(0, 1, 0, "900000") + ";" + jar(1, 1, 0, "090000")
+                + ";need 0 0 9;need 0 0 9;need 0 1 9");
+        CHECK.due("a need not taken yet makes no room", 5, () -> y.plan());
         x.ask(1, 0);
         CHECK.due("another one less", 1, () -> x.plan());
         x.undo();
