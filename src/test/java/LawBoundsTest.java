@@ -20,6 +20,8 @@ public final class LawBoundsTest {
         belowAndAbove();
         partsOfSums();
         matterAndViewAreNought();
+        liquids();
+        bindings();
         withoutText();
         CHECK.end();
     }
@@ -173,6 +175,21 @@ public final class LawBoundsTest {
             for (String w : wrong) {
                 fault(line + " " + w, line.length() + 1);
             }
+            otherLetters(line);
+        }
+    }
+
+    /** A word with another letter at its begin, or at its end, is none. */
+    private static void otherLetters(String line) {
+        for (int at = 0; at < line.length(); at++) {
+            boolean word = isLetter(line.charAt(at));
+            boolean first = at == 0 || !isLetter(line.charAt(at - 1));
+            boolean last = at + 1 == line.length() || !isLetter(line.charAt(at + 1));
+            if (word && (first || last)) {
+                int begin = line.lastIndexOf(' ', at) + 1;
+                fault(line.substring(0, at) + "z" + line.substring(at + 1), begin);
+                fault(line.substring(0, at) + "x" + line.substring(at + 1), begin);
+            }
         }
     }
 
@@ -321,17 +338,59 @@ public final class LawBoundsTest {
 
     private static void matterAndViewAreNought() {
         CHECK.says("(both 0 for sour, pop LINES)");
-        JarCabinet x = Check.with(Check.jar("honey", 0, 1, 0, 0, "999999"),
-                "sour 1 if matter<1;sour 2 if matter>0;sour 4 if view<1;sour 8 if view>0;add 1");
+        JarCabinet x = Check.with(Check.jar("honey", 0, 1, 0, 0, "999999"), "sour 1 if matter<1;sour 2 if matter>0;"
+                + "sour 4 if view<1;sour 8 if view>0;sour 16 if matter+1>0;sour 32 if view+1>0;add 1");
         x.advice(0, 5, true);
         x.years(1);
-        CHECK.due("both are 0", 5, () -> x.jar(0, 3));
+        CHECK.due("both are just 0", 53, () -> x.jar(0, 3));
         Check.law(x, "pop if matter>0 or view>0");
         x.ask(0, 5);
         x.undo();
         CHECK.due("both are 0: none pops", 0, () -> x.years(1));
         Check.law(x, "pop if matter<1 and view<1");
         CHECK.due("both are 0: it pops", 1, () -> x.years(1));
+    }
+
+    private static void liquids() {
+        CHECK.says("vinegar | honey | water | open | SUM < SUM");
+        String[] names = {"vinegar", "honey", "water"};
+        JarCabinet x = new JarCabinet();
+        for (int k = 0; k < 3; k++) {
+            Check.cabinet(x, Check.jar(names[k], k, 3, 0, 0, "000000"));
+        }
+        x.ask(1, 0);
+        Check.law(x, "add 1 if vinegar;add 2 if honey;add 4 if water;add 3 if open and vinegar or open and honey");
+        int[] due = {1, 5, 4};
+        for (int k = 0; k < 3; k++) {
+            int jar = k;
+            CHECK.due("of " + names[k], due[k], () -> x.advice(jar, 0, true));
+        }
+        x.close(1);
+        CHECK.due("not open any more", 2, () -> x.advice(1, 0, true));
+    }
+
+    /** All that can be true of three at once, by every way to bind them. */
+    private static void bindings() {
+        CHECK.says("C: ALL { or ALL }; ALL: ATOM { and ATOM }; ATOM: not ATOM | ( C )");
+        for (int bits = 0; bits < 8; bits++) {
+            boolean a = (bits & 1) == 1;
+            boolean b = (bits & 2) == 2;
+            boolean c = (bits & 4) == 4;
+            String[] laws = {"A or B and C", "A and B or C", "(A or B) and C", "A and (B or C)", "not A or B and C",
+                "not A and B or C", "not (A or B) and C", "not (A and B or C)", "A or not (B and not C)",
+                "A and B and C", "A or B or C", "(((A)) and ((B)))or(C)", "A and not not B or not C",
+                "(A and (B or C)) and (A or (B and C))"};
+            boolean[] due = {a || b && c, a && b || c, (a || b) && c, a && (b || c), !a || b && c, !a && b || c,
+                !(a || b) && c, !(a && b || c), a || !(b && !c), a && b && c, a || b || c, a && b || c, a && b || !c,
+                a && (b || c) && (a || b && c)};
+            JarCabinet x = Check.withJars(1);
+            for (int k = 0; k < laws.length; k++) {
+                String law = laws[k].replace("A", a ? "1>0" : "0>1").replace("B", b ? "honey" : "water")
+                        .replace("C", c ? "jar<1" : "jar>0");
+                Check.law(x, "add 1 if " + law);
+                CHECK.due(law, due[k] ? 1 : 0, () -> x.advice(0, 0, true));
+            }
+        }
     }
 
     private static void withoutText() {

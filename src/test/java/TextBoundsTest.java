@@ -27,6 +27,7 @@ public final class TextBoundsTest {
         noLine();
         moreMustCome();
         wrongThings();
+        missingAndDoubled();
         everyByteAlone();
         everyByteBetween();
         everyByteBehind();
@@ -421,6 +422,47 @@ public final class TextBoundsTest {
             }
             for (String w : wrong) {
                 fault(line + " " + w, line.length() + 1);
+            }
+            otherLetters(line);
+        }
+    }
+
+    private static boolean isNumber(String thing) {
+        return isFigure(thing.charAt(0));
+    }
+
+    /** A line with one thing taken out, or told twice: of numbers in a row the last is too few or too many. */
+    private static void missingAndDoubled() {
+        for (String line : LINES) {
+            String[] things = line.split(" ");
+            for (int n = 0; n < things.length; n++) {
+                int last = n;
+                while (isNumber(things[n]) && last + 1 < things.length && isNumber(things[last + 1])) {
+                    last++;
+                }
+                String ahead = n == 0 ? "" : joined(things, n) + " ";
+                String behind = String.join(" ", Arrays.copyOfRange(things, n + 1, things.length));
+                String between = String.join(" ", Arrays.copyOfRange(things, n + 1, last + 1));
+                int missing = (ahead + (between.isEmpty() ? "" : between + " ")).length();
+                String without = (ahead + behind).trim();
+                fault(without, without.isEmpty() ? -1 : Math.min(missing, without.length()));
+                String twice = ahead + things[n] + " " + things[n] + " " + behind;
+                fault(twice, (ahead + things[n] + " " + (between.isEmpty() ? "" : between + " ")).length());
+            }
+        }
+    }
+
+    /** A word with another letter at its begin, or at its end, is none. */
+    private static void otherLetters(String line) {
+        for (int at = 0; at < line.length(); at++) {
+            boolean word = isLetter(line.charAt(at));
+            boolean first = at == 0 || !isLetter(line.charAt(at - 1));
+            boolean last = at + 1 == line.length() || !isLetter(line.charAt(at + 1));
+            if (word && (first || last)) {
+                int begin = line.lastIndexOf(' ', at) + 1;
+                for (char other : new char[] {'x', 'z', (char) (line.charAt(at) - 1)}) {
+                    fault(line.substring(0, at) + other + line.substring(at + 1), begin);
+                }
             }
         }
     }
