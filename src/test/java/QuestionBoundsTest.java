@@ -304,6 +304,11 @@ public final class QuestionBoundsTest {
         CHECK.due("answers of the last", 1, () -> x.need(9, 3));
         CHECK.due("all ten", 1023, () -> x.plan());
         CHECK.due("all ten again", 1023, () -> x.plan());
+        JarCabinet y = Check.with(Check.jar("honey", 0, 1, 0, 0, "900000") + ";" + Check.jar("honey", 1, 1, 0, 0, "090000")
+                + ";need 0 0 9;need 0 0 9;need 0 1 9");
+        for (int n = 0; n < 3; n++) {
+            CHECK.due("as if none had been asked ahead", 5, () -> y.plan());
+        }
         x.ask(9, 0);
         CHECK.due("nine, without the last", 511, () -> x.plan());
         CHECK.due("nine again", 511, () -> x.plan());
@@ -402,6 +407,8 @@ public final class QuestionBoundsTest {
         }
         CHECK.due("three: one each ahead of two and one", 4,
                 () -> next(views("000000", "111111", "111121")));
+        CHECK.due("four: one each ahead of two, one and one", 1,
+                () -> next(views("000000", "010000", "120000", "230000")));
         CHECK.due("ten alike: the least", 0, () -> next(Check.withJars(10)));
         CHECK.due("three of 9 are more than two of 0", 1, () -> next(views("900000", "900000", "910000")));
         CHECK.due("three of 0 are more than two of 9", 1, () -> next(views("090000", "090000", "080000")));

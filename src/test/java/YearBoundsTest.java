@@ -7,6 +7,7 @@ public final class YearBoundsTest {
         poppingNeedsSpoons();
         poppingSoursBothSides();
         poppingAtTheEnds();
+        tenPop();
         byAllAsItIsByThen();
         peelIsBelow();
         waspsAreBelow();
@@ -98,6 +99,19 @@ public final class YearBoundsTest {
             int j = jar;
             CHECK.due("sour of " + j, sour[j], () -> x.jar(j, 3));
         }
+    }
+
+    private static void tenPop() {
+        JarCabinet x = Check.withJars(10);
+        Check.law(x, "pop");
+        CHECK.due("ten pop in a year", 10, () -> x.trial(1, true));
+        CHECK.due("ten pop in a year", 10, () -> x.years(1));
+        CHECK.due("no spoon is left", 0, () -> x.count(8));
+        for (int jar = 0; jar < 10; jar++) {
+            int j = jar;
+            CHECK.due("sour by its neighbours", j == 0 || j == 9 ? 10 : 20, () -> x.jar(j, 3));
+        }
+        CHECK.due("none the year behind", 0, () -> x.years(1));
     }
 
     private static void byAllAsItIsByThen() {
