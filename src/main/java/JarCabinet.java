@@ -503,8 +503,8 @@ public final class JarCabinet {
         private static final int WORD = 1;
         private static final int NUMBER = 2;
         private static final int SIGN = 3;
-        /** No number may be greater, and the value of a long one must not go round. */
-        private static final int MOST_VALUE = 10000;
+        /** A number that is as great is too great everywhere: more digits could make it go round. */
+        private static final int TOO_GREAT = 10000;
 
         private final byte[] bytes = new byte[MOST_BYTES];
         int size = 0;
@@ -568,7 +568,7 @@ public final class JarCabinet {
             } else if (bytes[begin] >= '0' && bytes[begin] <= '9') {
                 kind = NUMBER;
                 while (behind < size && bytes[behind] >= '0' && bytes[behind] <= '9') {
-                    value = Math.min(MOST_VALUE, 10 * value + bytes[behind] - '0');
+                    value = value < TOO_GREAT ? 10 * value + bytes[behind] - '0' : value;
                     behind++;
                 }
             } else {
@@ -594,7 +594,7 @@ public final class JarCabinet {
         }
 
         boolean isSign(char sign) {
-            return kind == SIGN && byteAt(begin) == sign;
+            return kind == SIGN && begin < size && bytes[begin] == sign;
         }
 
         boolean isNumber(int least, int most, int digits) {
@@ -1884,10 +1884,14 @@ public final class JarCabinet {
         }
 
         void lookAhead(int n) {
-            then.become(now);
+            lookAtNow();
             for (int i = 0; i < n; i++) {
                 lookOn();
             }
+        }
+
+        private void lookAtNow() {
+            then.become(now);
         }
 
         private void lookOn() {
@@ -1900,7 +1904,7 @@ public final class JarCabinet {
         }
 
         int firstBelow(int jar, int matter, int number) {
-            lookAhead(0);
+            lookAtNow();
             for (int n = 0; n <= FARTHEST; n++) {
                 if (adviceThen(jar, matter) < number) {
                     return n;
@@ -1911,7 +1915,7 @@ public final class JarCabinet {
         }
 
         int ripest(int jar, int matter, boolean much) {
-            lookAhead(0);
+            lookAtNow();
             int greatest = NONE;
             int first = 0;
             for (int n = 0; n <= FARTHEST; n++) {
@@ -1926,7 +1930,7 @@ public final class JarCabinet {
         }
 
         int firstPopped(int jar) {
-            lookAhead(0);
+            lookAtNow();
             if (then.spoons[jar] <= 0) {
                 return NONE;
             }
@@ -1959,7 +1963,7 @@ public final class JarCabinet {
             for (int need = 0; need < shelf.needs; need++) {
                 answers[need] = 0;
             }
-            lookAhead(0);
+            lookAtNow();
             for (int n = 0; n <= farthest; n++) {
                 for (int need = 0; need < shelf.needs; need++) {
                     if (shelf.needYears[need] == then.year) {
